@@ -65,10 +65,8 @@ public final class FaslDesk {
         if (e >= MOST_ENTRIES) {
             return FULL;
         }
-        Form form = interpreter.forms[f];
-        Entry target = archive.entries[e];
-        int stack = compiler.translate(form, target.code);
-        target.becomes(f, form.parameters, stack);
+        compiler.translate(interpreter.forms[f], archive.entries[e]);
+        archive.entries[e].finishFor(f);
         archive.keepWith(e);
         return e;
     }
@@ -94,12 +92,12 @@ public final class FaslDesk {
         if (!hasUnit(e, i) || !Code.forgeable(op)) {
             return REFUSED;
         }
-        Code code = archive.entries[e].code;
-        int before = code.op[i];
-        if (!Code.forgeable(before) || code.ofTimes[i]) {
+        Entry forged = archive.entries[e];
+        int before = forged.code.op[i];
+        if (!Code.forgeable(before) || forged.ofTimes[i]) {
             return REFUSED;
         }
-        code.op[i] = op;
+        forged.code.op[i] = op;
         return before;
     }
 
@@ -606,8 +604,6 @@ public final class FaslDesk {
         static final int[] LEAVES = {1, 1, 1, 1, 1, 1, 1, 1, 1, 1, 1, 1, 1, 0, 0, 0, 1, 0, 0, 2, 2, 0};
 
         final int[] op = new int[MOST_UNITS], first = new int[MOST_UNITS], second = new int[MOST_UNITS];
-        /* Which units a TIMES put there itself: without them a loop might not end, so they cannot be forged. */
-        final boolean[] ofTimes = new boolean[MOST_UNITS];
         int length;
 
         static boolean forgeable(int op) {
@@ -619,7 +615,6 @@ public final class FaslDesk {
                 op[length] = newOp;
                 first[length] = newFirst;
                 second[length] = 0;
-                ofTimes[length] = false;
                 length++;
             }
         }
@@ -628,43 +623,42 @@ public final class FaslDesk {
             System.arraycopy(other.op, 0, op, 0, other.length);
             System.arraycopy(other.first, 0, first, 0, other.length);
             System.arraycopy(other.second, 0, second, 0, other.length);
-            System.arraycopy(other.ofTimes, 0, ofTimes, 0, other.length);
             length = other.length;
         }
     }
 
-    /** Makes the units of a form, and reckons how many values are on the STACK at the most. */
+    /** Makes the units of a form in an ENTRY, and reckons how many values are on the STACK at the most. */
     private static final class Compiler {
         private Form form;
+        private Entry target;
         private Code code;
-        private int height, highest;
+        private int height;
 
-        int translate(Form from, Code into) {
+        void translate(Form from, Entry into) {
             form = from;
-            code = into;
-            code.length = 0;
+            target = into;
+            code = into.code;
             height = 0;
-            highest = 0;
+            target.startWith(form.parameters);
             for (int v = form.parameters; v < VARIABLES; v++) {
                 emit(Code.PUSH, 0);
                 emit(Code.STORE, v);
             }
             emitForm(0);
             emit(Code.GIVE, 0);
-            return highest;
         }
 
         private void emit(int op, int first) {
             code.append(op, first);
             height += Code.LEAVES[op] - Code.TAKES[op];
-            highest = Math.max(highest, height);
+            target.stack = Math.max(target.stack, height);
         }
 
         private void emitOfTimes(int op) {
             int at = code.length;
             emit(op, 0);
             if (at < code.length) {
-                code.ofTimes[at] = true;
+                target.ofTimes[at] = true;
             }
         }
 
@@ -757,17 +751,26 @@ public final class FaslDesk {
     /** An ENTRY of the ARCHIVE; its SEAL is what the number, the octet and the UNITS were when it was made. */
     private static final class Entry {
         final Code code = new Code();
+        /* Which units a TIMES put there itself: without them a loop might not end, so they cannot be forged. */
+        final boolean[] ofTimes = new boolean[MOST_UNITS];
         int number, parameters, stack, namedFor;
         boolean octetChanged;
         private final int[] sealedOps = new int[MOST_UNITS];
         private int sealedNumber;
         private boolean sealedOctet;
 
-        void becomes(int f, int newParameters, int newStack) {
+        void startWith(int newParameters) {
+            code.length = 0;
+            parameters = newParameters;
+            stack = 0;
+            for (int i = 0; i < MOST_UNITS; i++) {
+                ofTimes[i] = false;
+            }
+        }
+
+        void finishFor(int f) {
             number = f;
             namedFor = f;
-            parameters = newParameters;
-            stack = newStack;
             octetChanged = false;
             makeSeal();
         }

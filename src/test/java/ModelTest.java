@@ -12,7 +12,7 @@ public final class ModelTest {
     private final FaslDesk desk = new FaslDesk();
     private final Model model = new Model();
     private final List<String> told = new ArrayList<>();
-    private int calls, sound, loaded, forgedLoads;
+    private int calls, sound, forgedLoads;
     private boolean right = true;
 
     private ModelTest(long seed) {
@@ -44,12 +44,18 @@ public final class ModelTest {
     }
 
     private void goOn() {
+        for (int f = 0; f < 8; f++) {
+            if (random.nextInt(3) > 0) {
+                writeForm(f);
+                compileOne(f);
+            }
+        }
         while (calls < CALLS && right) {
             switch (random.nextInt(12)) {
                 case 0:
-                case 1:
-                    writeForm();
+                    writeForm(small(7));
                     break;
+                case 1:
                 case 2:
                     stray();
                     break;
@@ -95,12 +101,11 @@ public final class ModelTest {
         same("token(" + op + ", " + a + ")", () -> desk.token(op, a), () -> model.token(op, a));
     }
 
-    private void writeForm() {
-        int f = small(7);
+    private void writeForm(int f) {
         int n = small(3);
-        writePart(f, n, 2 + random.nextInt(5), 0);
+        writePart(f, n, 1 + random.nextInt(4), 0);
         same("define(" + f + ", " + n + ")", () -> desk.define(f, n), () -> model.define(f, n));
-        if (random.nextInt(3) > 0) {
+        if (random.nextInt(6) > 0) {
             same("clear()", desk::clear, model::clear);
         }
     }
@@ -164,14 +169,28 @@ public final class ModelTest {
 
     private void compileSome() {
         for (int k = random.nextInt(4); k >= 0; k--) {
-            int f = small(7);
-            same("compile(" + f + ")", () -> desk.compile(f), () -> model.compile(f));
+            compileOne(small(7));
         }
+    }
+
+    private String compileOne(int f) {
+        return same("compile(" + f + ")", () -> desk.compile(f), () -> model.compile(f));
+    }
+
+    /** Mostly an ENTRY that is there. */
+    private int someEntry() {
+        return small(Math.max(0, desk.count(1) - 1));
+    }
+
+    /** Mostly a FUNCTION that the IMAGE has. */
+    private int someFunction() {
+        int e = someEntry();
+        return random.nextInt(6) == 0 ? small(7) : desk.entry(e, 0);
     }
 
     private void damageSome() {
         int part = small(4);
-        int e = small(3);
+        int e = someEntry();
         int v = small(9);
         same("damage(" + part + ", " + e + ", " + v + ")", () -> desk.damage(part, e, v),
                 () -> model.damage(part, e, v));
@@ -189,12 +208,11 @@ public final class ModelTest {
     }
 
     private void forgeSome() {
-        int e = small(3);
-        int units = Math.max(1, desk.entry(e, 2));
+        int e = someEntry();
         int changed = 0;
         int wanted = 1 + random.nextInt(3);
-        for (int k = 0; k < 12 && changed < wanted; k++) {
-            int i = random.nextInt(10) == 0 ? small(units) : units - 1 - random.nextInt(Math.max(1, units - 8));
+        for (int k = 0; k < 6 && changed < wanted; k++) {
+            int i = someUnit(e);
             int op = random.nextInt(12) == 0 ? small(22) : FORGED[random.nextInt(FORGED.length)];
             String got = same("forge(" + e + ", " + i + ", " + op + ")", () -> desk.forge(e, i, op),
                     () -> model.forge(e, i, op));
@@ -203,16 +221,25 @@ public final class ModelTest {
         if (random.nextInt(6) > 0) {
             seal(e);
         }
-        String fault = loadAndRun();
-        forgedLoads += changed > 0 && fault.equals("0") ? 1 : 0;
-        if (!fault.equals("0") && random.nextInt(5) > 0) {
-            int f = desk.entry(e, 4);
-            same("compile(" + f + ")", () -> desk.compile(f), () -> model.compile(f));
+        int fault = loadAndRun();
+        forgedLoads += changed > 0 && fault == 0 ? 1 : 0;
+        if (random.nextInt(4) > 0) {
+            mend(fault);
         }
     }
 
+    /** Mostly a unit that can be forged. */
+    private int someUnit(int e) {
+        int units = Math.max(1, desk.entry(e, 2));
+        int i = small(units);
+        for (int k = 0; k < 30 && random.nextInt(20) > 0 && "0 1 13 14 15 16".contains("" + desk.unit(e, i, 0)); k++) {
+            i = random.nextInt(units);
+        }
+        return i;
+    }
+
     private void look() {
-        int e = small(4);
+        int e = someEntry();
         int i = small(60);
         for (int what = 0; what <= 8; what++) {
             int asked = what == 8 ? small(9) : what;
@@ -226,10 +253,34 @@ public final class ModelTest {
         }
     }
 
-    private String loadAndRun() {
-        String fault = same("load()", desk::load, model::load);
+    /** What takes the FAULT away, so that runs do not stay with one. */
+    private void mend(int fault) {
+        int e = desk.count(6);
+        if (fault == 1) {
+            same("damage(0, 0, 0)", () -> desk.damage(0, 0, 0), () -> model.damage(0, 0, 0));
+        } else if (fault == 2 || fault == 3) {
+            int entries = desk.count(1);
+            same("damage(1, 0, " + entries + ")", () -> desk.damage(1, 0, entries), () -> model.damage(1, 0, entries));
+        } else if (fault == 4) {
+            seal(e);
+        } else if (fault == 5) {
+            same("drop(" + e + ")", () -> desk.drop(e), () -> model.drop(e));
+        } else if (fault != 0) {
+            int f = desk.entry(e, 0);
+            if (compileOne(f).equals("-1")) {
+                same("drop(" + e + ")", () -> desk.drop(e), () -> model.drop(e));
+            }
+        }
+    }
+
+    private int loadAndRun() {
+        int fault = Integer.parseInt(same("load()", desk::load, model::load));
+        if (random.nextInt(3) > 0) {
+            mend(fault);
+            same("load()", desk::load, model::load);
+        }
         for (int k = random.nextInt(4); k >= 0; k--) {
-            int f = small(7);
+            int f = someFunction();
             int x = number();
             int y = number();
             int z = number();
