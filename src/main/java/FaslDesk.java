@@ -735,15 +735,15 @@ public final class FaslDesk {
             emit(Code.PUSH, 0);
         }
 
-        private void setFirst(int at, int target) {
+        private void setFirst(int at, int unit) {
             if (at < code.length) {
-                code.first[at] = target;
+                code.first[at] = unit;
             }
         }
 
-        private void setSecond(int at, int target) {
+        private void setSecond(int at, int unit) {
             if (at < code.length) {
-                code.second[at] = target;
+                code.second[at] = unit;
             }
         }
     }

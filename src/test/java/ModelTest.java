@@ -37,7 +37,7 @@ public final class ModelTest {
         }
         System.out.println(RUNS + " runs alike, " + defined + " forms, " + answered + " answers of code, " + forged
                 + " loads of forged code");
-        if (defined < RUNS || answered < RUNS || forged < RUNS / 10) {
+        if (defined < 3 * RUNS || answered < 10 * RUNS || forged < RUNS / 2) {
             System.out.println("the runs are too tame to tell anything");
             System.exit(1);
         }

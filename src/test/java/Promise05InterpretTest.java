@@ -88,6 +88,8 @@ public final class Promise05InterpretTest {
         gives(sum, 14, 0, 0, "21");
         gives(sum, -1, 0, 0, "28");
         gives("TIMES3 INT5 INT9", 0, 0, 0, "0");
+        gives("SUB INT5 TIMES3 INT2 INT9", 0, 0, 0, "5");
+        gives("SUB TIMES3 INT2 INT9 INT5", 0, 0, 0, "-5");
         gives("TIMES3 INT0 DIV INT1 INT0", 0, 0, 0, "0");
         gives("TIMES3 INT1 DIV INT1 INT0", 0, 0, 0, Due.ZERO);
         gives("LET3 INT0 ADD TIMES4 INT7 TIMES5 INT7 SET3 ADD VAR3 INT1 VAR3", 0, 0, 0, "49");

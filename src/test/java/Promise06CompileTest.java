@@ -63,6 +63,15 @@ public final class Promise06CompileTest {
         DUE.is("the first", desk.compile(5), 0);
         DUE.is("the second", desk.compile(2), 1);
         DUE.is("the first again", desk.compile(5), 0);
+        Due.defined(desk, 5, 1, "ADD INT1 ADD INT2 IF0 VAR0 INT3 INT4");
+        desk.compile(5);
+        Due.defined(desk, 5, 1, "NEG NEG NEG NEG NEG VAR0");
+        DUE.is("nothing is left of a larger one", desk.compile(5), 0);
+        DUE.is("not its STACK", desk.entry(0, 3), 1);
+        DUE.is("not its units", Due.units(desk, 0, 12), "LOAD 0,NEG,NEG,NEG,NEG,NEG,GIVE");
+        DUE.is("not the b of its IF", desk.unit(0, 15, 2), 0);
+        Due.defined(desk, 5, 1, "VAR0");
+        desk.compile(5);
         DUE.is("two ENTRIES", desk.count(1), 2);
         Due.defined(desk, 5, 3, "ADD VAR0 VAR2");
         DUE.is("a form alone changes no ENTRY", desk.entry(0, 1), 1);

@@ -31,6 +31,12 @@ public final class Promise08ForgeTest {
         due.is("forged again and again", desk.forge(0, 15, 20), 17);
         due.is("it tells what was there", desk.forge(0, 15, 19), 20);
         due.is("a forged unit has no a", desk.unit(0, 15, 1), 0);
+        FaslDesk again = Due.desk(7, 3, "TIMES3 INT1 INT2");
+        again.compile(7);
+        due.refused("AND of a TIMES", again.forge(0, 10, 2));
+        Due.defined(again, 7, 3, "AND INT1 INT2");
+        again.compile(7);
+        due.is("AND of another form in its place", again.forge(0, 10, 2), 7);
         desk.drop(0);
         due.refused("what was dropped", desk.forge(0, 15, 2));
         due.end();
