@@ -31,7 +31,8 @@ public final class ModelTest {
             forged += test.forgedLoads;
             if (!test.right) {
                 int from = Math.max(0, test.told.size() - 60);
-                System.out.println("seed " + seed + ": " + String.join("\n", test.told.subList(from, test.told.size())));
+                System.out.println("seed " + seed + ": "
+                        + String.join("\n", test.told.subList(from, test.told.size())));
                 System.exit(1);
             }
         }

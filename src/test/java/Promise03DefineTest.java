@@ -1,137 +1,93 @@
-/** Promise 3: which drafts are one form as said. */
+/** Promise 3: a draft becomes a FUNCTION's form (which forms go: TermsFormsTest). */
 public final class Promise03DefineTest {
-    private static final Due DUE = new Due();
+    private static final int LEAST = Integer.MIN_VALUE, MOST = Integer.MAX_VALUE;
 
     public static void main(String[] args) {
-        shapes();
-        variables();
-        times();
-        calls();
-        draftStaysOrGoes();
-        DUE.end();
+        Sentences promise = new Sentences("Promise 3: define");
+        promise.test("The draft is the form of FUNCTION f with n PARAMETERS,", Promise03DefineTest::becomesTheForm);
+        promise.test("and empty then: how many tokens it has.", Promise03DefineTest::emptyThen);
+        promise.test("REFUSED if f is not 0..7,", Promise03DefineTest::functions);
+        promise.test("n not 0..3,", Promise03DefineTest::parameters);
+        promise.test("or it is not one form as said;", Promise03DefineTest::notOneForm);
+        promise.test("the draft stays then.", Promise03DefineTest::draftStays);
+        promise.end();
     }
 
-    private static void goes(int f, int n, String form) {
-        DUE.is("define(" + f + ", " + n + ") of " + form + " goes", Due.goes(f, n, form), true);
-    }
-
-    private static void fails(int f, int n, String form) {
-        DUE.is("define(" + f + ", " + n + ") of " + form + " goes", Due.goes(f, n, form), false);
-    }
-
-    private static void shapes() {
-        goes(0, 0, "INT5");
-        fails(0, 0, "INT5 INT5");
-        for (String op : Due.OPS.subList(2, 12)) {
-            goes(0, 0, op + " INT1 INT2");
-            fails(0, 0, op + " INT1");
-            fails(0, 0, op + " INT1 INT2 INT3");
-        }
-        goes(0, 0, "NEG INT1");
-        fails(0, 0, "NEG");
-        fails(0, 0, "NEG INT1 INT2");
-        goes(0, 0, "IF0 INT1 INT2 INT3");
-        fails(0, 0, "IF0 INT1 INT2");
-        fails(0, 0, "IF0 INT1 INT2 INT3 INT4");
-        goes(0, 0, "LET3 INT1 INT2");
-        fails(0, 0, "LET3 INT1");
-        goes(0, 1, "SET0 INT1");
-        fails(0, 1, "SET0");
-        goes(0, 0, "TIMES3 INT1 INT2");
-        fails(0, 0, "TIMES3 INT1");
-        goes(1, 0, "CALL0 INT1 INT2 INT3");
-        fails(1, 0, "CALL0 INT1 INT2");
-        fails(1, 0, "CALL0 INT1 INT2 INT3 INT4");
-        for (int f : new int[] {-1, 8, Integer.MAX_VALUE, Integer.MIN_VALUE}) {
-            fails(f, 0, "INT5");
-        }
-        for (int n : new int[] {-1, 4, 32, Integer.MIN_VALUE}) {
-            fails(0, n, "INT5");
-        }
-        for (int f = 0; f < 8; f++) {
-            goes(f, f % 4, "INT5");
-        }
-    }
-
-    private static void variables() {
-        for (int n = 0; n <= 3; n++) {
-            for (int v = 0; v <= 6; v++) {
-                DUE.is("VAR" + v + " with " + n, Due.goes(0, n, "VAR" + v), v < n);
-                DUE.is("SET" + v + " with " + n, Due.goes(0, n, "SET" + v + " INT1"), v < n);
-            }
-        }
-        for (int v = 3; v <= 6; v++) {
-            goes(0, 0, "LET" + v + " INT1 VAR" + v);
-            goes(0, 0, "LET" + v + " INT1 SET" + v + " INT2");
-            goes(0, 0, "TIMES" + v + " INT1 VAR" + v);
-            fails(0, 0, "LET" + v + " VAR" + v + " INT1");
-            fails(0, 0, "TIMES" + v + " VAR" + v + " INT1");
-            fails(0, 0, "LET" + v + " INT1 VAR" + (v == 6 ? 3 : v + 1));
-            fails(0, 0, "ADD LET" + v + " INT1 INT2 VAR" + v);
-            fails(0, 0, "ADD TIMES" + v + " INT1 INT2 VAR" + v);
-        }
-        goes(0, 0, "LET3 INT1 LET4 VAR3 ADD VAR3 VAR4");
-        goes(0, 0, "LET3 INT1 LET3 VAR3 VAR3");
-        goes(0, 0, "LET3 INT1 ADD LET3 INT2 VAR3 VAR3");
-    }
-
-    private static void times() {
-        fails(0, 0, "TIMES3 INT1 SET3 INT2");
-        fails(0, 0, "TIMES3 INT1 LET3 INT2 INT3");
-        fails(0, 0, "TIMES3 INT1 TIMES3 INT2 INT3");
-        fails(0, 0, "LET3 INT1 TIMES3 INT1 NEG SET3 INT2");
-        fails(0, 0, "TIMES3 INT1 LET4 LET3 INT1 INT2 INT3");
-        fails(0, 0, "TIMES3 INT1 TIMES4 SET3 INT2 INT3");
-        goes(0, 0, "TIMES3 INT1 LET4 INT2 SET4 VAR3");
-        goes(0, 0, "LET3 INT1 TIMES3 SET3 INT2 VAR3");
-        goes(0, 0, "TIMES3 LET3 INT1 VAR3 INT2");
-        goes(0, 0, "TIMES3 TIMES3 INT1 INT2 INT3");
-        goes(0, 0, "LET3 INT1 ADD TIMES3 INT2 VAR3 SET3 INT4");
-        goes(0, 0, "TIMES3 INT1 TIMES4 INT2 ADD VAR3 VAR4");
-        fails(0, 0, "TIMES3 INT1 TIMES4 INT2 TIMES5 INT3 INT4");
-        fails(0, 0, "TIMES3 INT1 NEG TIMES4 INT2 NEG TIMES5 INT3 INT4");
-        goes(0, 0, "ADD TIMES3 INT1 TIMES4 INT2 INT3 TIMES3 INT1 TIMES4 INT2 INT3");
-        goes(0, 0, "TIMES3 INT1 ADD TIMES4 INT2 INT3 TIMES4 INT2 INT3");
-    }
-
-    private static void calls() {
-        for (int f = 0; f < 8; f++) {
-            for (int a = 0; a < 8; a++) {
-                DUE.is("CALL" + a + " in " + f, Due.goes(f, 0, "CALL" + a + " INT1 INT2 INT3"), a < f);
-            }
-        }
-        goes(7, 0, "CALL6 CALL5 INT1 INT2 INT3 INT2 INT3");
-        goes(7, 0, "ADD CALL6 INT1 INT2 INT3 CALL6 INT1 INT2 INT3");
-        fails(7, 0, "CALL6 CALL5 INT1 INT2 INT3 INT2 CALL4 INT1 INT2 INT3");
-        fails(7, 0, "IF0 CALL1 INT1 INT2 INT3 CALL2 INT1 INT2 INT3 CALL3 INT1 INT2 INT3");
-        fails(7, 0, "TIMES3 INT1 CALL0 INT1 INT2 INT3");
-        fails(7, 0, "TIMES3 INT1 ADD INT1 CALL0 INT1 INT2 INT3");
-        goes(7, 0, "ADD TIMES3 INT1 INT2 CALL0 INT1 INT2 INT3");
-        goes(7, 0, "CALL0 TIMES3 INT1 INT2 INT2 INT3");
-        goes(7, 0, "LET3 CALL0 INT1 INT2 INT3 IF1 VAR3 CALL1 INT1 INT2 INT3 INT4");
-    }
-
-    private static void draftStaysOrGoes() {
+    private static void becomesTheForm(Due due) {
         FaslDesk desk = new FaslDesk();
+        Due.defined(desk, 3, 2, "ADD VAR1 INT4");
+        due.is("it runs", Due.interpreted(desk, 3, 10, 20, 30), "24");
+        due.is("the others have none", desk.count(0), 1);
+        desk.compile(3);
+        due.is("PARAMETERS", desk.entry(0, 1), 2);
+        Due.defined(desk, 3, 3, "VAR2");
+        due.is("another one in its place", Due.interpreted(desk, 3, 10, 20, 30), "30");
+        due.is("still one", desk.count(0), 1);
+        due.is("the ENTRY is as it was", desk.entry(0, 1), 2);
+        Due.defined(desk, 3, 0, "INT7");
+        desk.compile(3);
+        due.is("fewer PARAMETERS", desk.entry(0, 1), 0);
+    }
+
+    private static void emptyThen(Due due) {
+        for (int tokens : new int[] {1, 2, 39, 40}) {
+            FaslDesk desk = new FaslDesk();
+            Due.write(desk, "NEG ".repeat(tokens - 1) + "INT5");
+            due.is("define(0, 0)", desk.define(0, 0), tokens);
+            due.is("tokens in the draft", desk.count(7), 0);
+            due.is("clear()", desk.clear(), 0);
+            due.refused("nothing is left to define", desk.define(0, 0));
+        }
+    }
+
+    private static void functions(Due due) {
+        for (int f = 0; f <= 7; f++) {
+            due.goes(f, 0, "INT5", true);
+        }
+        for (int f : new int[] {LEAST, -1, 8, 9, MOST}) {
+            due.goes(f, 0, "INT5", false);
+        }
+    }
+
+    private static void parameters(Due due) {
+        for (int n = 0; n <= 3; n++) {
+            due.goes(0, n, "INT5", true);
+        }
+        for (int n : new int[] {LEAST, -1, 4, 32, 35, MOST}) {
+            due.goes(0, n, "INT5", false);
+        }
+    }
+
+    private static void notOneForm(Due due) {
+        due.refused("none at all", new FaslDesk().define(0, 0));
+        due.goes(0, 0, "ADD INT1", false);
+        due.goes(0, 0, "ADD INT1 INT2", true);
+        due.goes(0, 0, "ADD INT1 INT2 INT3", false);
+        due.goes(0, 0, "NEG ".repeat(39) + "INT1", true);
+        due.goes(0, 0, "NEG ".repeat(40), false);
+        due.goes(0, 0, "NEG ".repeat(38) + "INT1 INT2", false);
+        due.goes(0, 0, "VAR0", false);
+        due.goes(0, 2, "SET2 INT1", false);
+        due.goes(0, 0, "LET3 VAR3 INT1", false);
+        due.goes(0, 0, "TIMES3 INT1 SET3 INT2", false);
+        due.goes(0, 0, "TIMES3 INT1 TIMES4 INT1 TIMES5 INT1 INT2", false);
+        due.goes(3, 0, "CALL3 INT1 INT2 INT3", false);
+        due.goes(3, 0, "TIMES3 INT1 CALL2 INT1 INT2 INT3", false);
+        due.goes(3, 0, "IF0 CALL0 INT1 INT2 INT3 CALL1 INT1 INT2 INT3 CALL2 INT1 INT2 INT3", false);
+    }
+
+    private static void draftStays(Due due) {
+        FaslDesk desk = Due.desk(3, 1, "NEG VAR0");
         Due.write(desk, "ADD VAR1");
-        DUE.refused("half a form", desk.define(3, 2));
-        DUE.is("it stays", desk.count(7), 2);
-        DUE.refused("define(8, 2)", desk.define(8, 2));
+        due.refused("half a form", desk.define(3, 2));
+        due.is("it stays", desk.count(7), 2);
         desk.token(0, 4);
-        DUE.refused("too few PARAMETERS", desk.define(3, 1));
-        DUE.refused("too many PARAMETERS", desk.define(3, 4));
-        DUE.is("no form yet", desk.count(0), 0);
-        DUE.is("the whole one", desk.define(3, 2), 3);
-        DUE.is("the draft is empty then", desk.count(7), 0);
-        DUE.is("one form", desk.count(0), 1);
-        DUE.is("it runs", Due.interpreted(desk, 3, 10, 20, 30), "24");
-        Due.write(desk, "ADD INT1");
-        DUE.refused("a bad form leaves the old one", desk.define(3, 0));
-        DUE.is("it runs still", Due.interpreted(desk, 3, 10, 20, 30), "24");
-        desk.clear();
-        Due.write(desk, "INT77");
-        DUE.is("another form for it", desk.define(3, 0), 1);
-        DUE.is("the new one runs", Due.interpreted(desk, 3, 10, 20, 30), "77");
-        DUE.is("still one form", desk.count(0), 1);
+        due.refused("no FUNCTION 8", desk.define(8, 2));
+        due.refused("too few PARAMETERS", desk.define(3, 1));
+        due.refused("too many PARAMETERS", desk.define(3, 4));
+        due.is("it stays", desk.count(7), 3);
+        due.is("the form of before stays", Due.interpreted(desk, 3, 10, 20, 30), "-10");
+        due.is("the same draft goes", desk.define(3, 2), 3);
+        due.is("it is as it was written", Due.interpreted(desk, 3, 10, 20, 30), "24");
     }
 }
