@@ -56,16 +56,18 @@ public final class WhatItIsTest {
         due.is("the 511th", Due.interpreted(writer, 6, 0, 0, 0), "254");
         due.is("the 512th", writer.count(0), 8);
         FaslDesk keeper = new FaslDesk();
-        Due.defined(keeper, 0, 1, "DIV INT1 VAR0");
-        for (int k = 0; k < 101; k++) {
+        // Each time something waits for what is thrown; it must not stay.
+        Due.defined(keeper, 0, 1, "ADD INT1 ADD INT2 DIV INT1 VAR0");
+        for (int k = 0; k < 100; k++) {
             due.is("compile", keeper.compile(0), 0);
             due.is("load", keeper.load(), 0);
             due.is("interpret", Due.interpreted(keeper, 0, 0, 0, 0), Due.ZERO);
             due.is("run", Due.ran(keeper, 0, 0, 0, 0), Due.ZERO);
             due.is("drop", keeper.drop(0), 0);
         }
-        due.is("the 510th", Due.ran(keeper, 0, -1, 0, 0), "-1");
-        due.is("the 511th", keeper.count(4), 101);
-        due.is("the 512th", keeper.count(1), 0);
+        due.is("the 509th", keeper.count(4), 100);
+        due.is("the 510th", keeper.count(1), 0);
+        due.is("the 511th", Due.interpreted(keeper, 0, -1, 0, 0), "2");
+        due.is("the 512th", Due.ran(keeper, 0, -1, 0, 0), "2");
     }
 }
