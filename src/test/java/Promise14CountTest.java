@@ -95,6 +95,19 @@ public final class Promise14CountTest {
         desk.damage(3, 1, 0);
         desk.load();
         due.is("a LOADING finds one, however many there are", desk.count(5), 6);
+        int[][] damages = {{0, 1}, {1, 3}, {1, 1}, {3, 0}, {2, 0}, {3, 0}, {2, 5}};
+        for (int fault = 1; fault <= 8; fault++) {
+            FaslDesk one = Due.archive(2);
+            if (fault == 8) {
+                one.forge(1, 15, 21);
+            } else {
+                one.damage(damages[fault - 1][0], 1, damages[fault - 1][1]);
+            }
+            if (fault > 4) {
+                one.damage(4, 1, 0);
+            }
+            due.is("load() and how often then", one.load() + " " + one.count(5), fault + " 1");
+        }
     }
 
     private static void latest(Due due) {

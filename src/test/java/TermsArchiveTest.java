@@ -435,11 +435,16 @@ public final class TermsArchiveTest {
         Due.defined(desk, 3, 1, "CALL0 VAR0 INT0 INT0");
         Due.defined(desk, 5, 2, "IF0 VAR0 INT7 CALL3 VAR1 INT0 INT0");
         desk.compile(5);
-        desk.compile(3);
         due.is("it need not be there to be loaded", desk.load(), 0);
         due.is("nor if the CALL is not done", Due.ran(desk, 5, 0, 4, 0), "7");
         due.is("when it is done", Due.ran(desk, 5, 1, 4, 0), Due.NOT_THERE);
-        due.is("each time", Due.ran(desk, 3, 4, 0, 0), Due.NOT_THERE);
+        due.is("each time", Due.ran(desk, 5, 1, 4, 0), Due.NOT_THERE);
+        due.is("still not if it is not done", Due.ran(desk, 5, 0, 4, 0), "7");
+        desk.compile(3);
+        due.is("load()", desk.load(), 0);
+        due.is("nor what that one leads to", Due.ran(desk, 5, 0, 4, 0), "7");
+        due.is("when that is done", Due.ran(desk, 5, 1, 4, 0), Due.NOT_THERE);
+        due.is("by itself, too", Due.ran(desk, 3, 4, 0, 0), Due.NOT_THERE);
         desk.compile(0);
         due.is("what is compiled is not in the IMAGE", Due.ran(desk, 5, 1, 4, 0), Due.NOT_THERE);
         desk.load();
@@ -461,13 +466,18 @@ public final class TermsArchiveTest {
         due.is("FULL", FaslDesk.FULL, -2);
     }
 
-    /** Two ENTRIES, the second with a changed octet, an IMAGE, and a draft that is a form with three PARAMETERS. */
+    /**
+     * Four ENTRIES (the second with a changed octet, the third divides by 0, the last leads to a FUNCTION that is not
+     * there), an IMAGE, and a draft that is a form with three PARAMETERS.
+     */
     private static FaslDesk busy() {
         FaslDesk desk = Due.desk(0, 1, "MUL VAR0 INT2");
         Due.defined(desk, 1, 2, "CALL0 ADD VAR0 VAR1 INT0 INT0");
         Due.defined(desk, 2, 3, "DIV VAR0 SUB VAR1 VAR1");
-        desk.compile(1);
-        desk.compile(0);
+        Due.defined(desk, 6, 0, "CALL5 INT1 INT2 INT3");
+        for (int f : new int[] {1, 0, 2, 6}) {
+            desk.compile(f);
+        }
         desk.load();
         octet(desk, 1);
         Due.write(desk, "NEG VAR2");
@@ -506,17 +516,20 @@ public final class TermsArchiveTest {
             thrown(due, "run(" + f + ", 0, 0, 0)", desk -> desk.run(f, 0, 0, 0), Due.NO_SUCH);
         }
         thrown(due, "interpret(2, 1, 1, 1)", desk -> desk.interpret(2, 1, 1, 1), Due.ZERO);
+        thrown(due, "run(2, 1, 1, 1)", desk -> desk.run(2, 1, 1, 1), Due.ZERO);
+        thrown(due, "interpret(6, 1, 1, 1)", desk -> desk.interpret(6, 1, 1, 1), Due.NO_SUCH);
+        thrown(due, "run(6, 1, 1, 1)", desk -> desk.run(6, 1, 1, 1), Due.NOT_THERE);
         int[][] damages = {{-1, 0, 0}, {5, 0, 0}, {0, 0, -1}, {0, 0, 8}, {1, 0, -1}, {1, 0, 10}, {2, 0, -1}, {2, 0, 8},
-            {2, -1, 0}, {2, 2, 0}, {3, -1, 0}, {3, 2, 0}, {4, -1, 0}, {4, 2, 0}};
+            {2, -1, 0}, {2, 4, 0}, {3, -1, 0}, {3, 4, 0}, {4, -1, 0}, {4, 4, 0}};
         for (int[] d : damages) {
             refused(due, "damage(" + d[0] + ", " + d[1] + ", " + d[2] + ")", desk -> desk.damage(d[0], d[1], d[2]));
         }
-        int[][] forges = {{-1, 14, 2}, {2, 14, 2}, {0, -1, 2}, {0, 99, 2}, {0, 0, 2}, {0, 12, 1}, {0, 12, 13},
+        int[][] forges = {{-1, 14, 2}, {4, 14, 2}, {0, -1, 2}, {0, 99, 2}, {0, 0, 2}, {0, 12, 1}, {0, 12, 13},
             {0, 12, 22}};
         for (int[] f : forges) {
             refused(due, "forge(" + f[0] + ", " + f[1] + ", " + f[2] + ")", desk -> desk.forge(f[0], f[1], f[2]));
         }
-        for (int e : new int[] {-1, 2, 8}) {
+        for (int e : new int[] {-1, 4, 8}) {
             refused(due, "drop(" + e + ")", desk -> desk.drop(e));
             refused(due, "entry(" + e + ", 0)", desk -> desk.entry(e, 0));
             refused(due, "unit(" + e + ", 0, 0)", desk -> desk.unit(e, 0, 0));
