@@ -1,8 +1,12 @@
+import java.io.IOException;
 import java.lang.reflect.Constructor;
 import java.lang.reflect.Field;
 import java.lang.reflect.Method;
 import java.lang.reflect.Modifier;
+import java.nio.file.Files;
+import java.nio.file.Path;
 import java.util.Arrays;
+import java.util.List;
 import java.util.Set;
 import java.util.TreeSet;
 
@@ -15,7 +19,7 @@ public final class FaceTest {
             "run(int,int,int,int) NoSuchElementException ArithmeticException IllegalStateException",
             "entry(int,int)", "unit(int,int,int)", "count(int)"));
 
-    public static void main(String[] args) {
+    public static void main(String[] args) throws IOException {
         Due due = new Due();
         due.is("public final", FaslDesk.class.getModifiers(), Modifier.PUBLIC | Modifier.FINAL);
         Set<String> seen = new TreeSet<>();
@@ -51,7 +55,27 @@ public final class FaceTest {
         }
         due.is("REFUSED", FaslDesk.REFUSED, -1);
         due.is("FULL", FaslDesk.FULL, -2);
+        asWritten(due);
         due.end();
+    }
+
+    /** Every line of the document's face stands in the program, with the names of its parameters, too. */
+    private static void asWritten(Due due) throws IOException {
+        String program = inOneLine(Files.readString(Path.of("src", "main", "java", "FaslDesk.java")));
+        List<String> document = Files.readAllLines(Path.of("..", "shared", "DOC.md"));
+        int begin = document.indexOf("## The public face") + 3;
+        int lines = 0;
+        for (int k = begin; !document.get(k).equals("}"); k++) {
+            String line = inOneLine(document.get(k)).replace("java.util.", "");
+            String declared = line.contains("(") ? line.replace(";", " {") : line;
+            due.is("the program has " + line, program.contains(declared), true);
+            lines++;
+        }
+        due.is("lines of the face", lines, 16);
+    }
+
+    private static String inOneLine(String text) {
+        return text.trim().replaceAll("\\s+", " ");
     }
 
     private static String written(Method method) {
